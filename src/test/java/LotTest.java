@@ -36,6 +36,8 @@ public final class LotTest {
     private static void drawnAsCalled() {
         for (int seed = -40; seed < 40; seed++) {
             DeadListPool x = sample();
+            x.write(0, 0, 2);
+            x.erase(0, 0);
             int n = (seed + 40) % 61;
             int before = x.count(3);
             long[] told = new long[4];
@@ -143,7 +145,11 @@ public final class LotTest {
         DeadListPool twin = sample();
         x.tag(9, 4);
         twin.tag(9, 4);
-        due("33", x.image(), 13);
+        x.files(77);
+        twin.files(77);
+        due("33", x.image(), 14);
+        x.remove(13);
+        x.files(78);
         x.promote(12);
         x.write(12, 0, 9);
         x.snap(2, 0);
@@ -154,7 +160,7 @@ public final class LotTest {
         x.mark(3);
         x.remove(3);
         x.tick();
-        due("34", x.back(), 13);
+        due("34", x.back(), 14);
         for (int of = 0; of < 20; of++) {
             for (int what = 0; what < 10; what++) {
                 due("34 told", x.told(of, what), twin.told(of, what));

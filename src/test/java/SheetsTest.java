@@ -54,6 +54,7 @@ public final class SheetsTest {
         due("27 away, n does not matter", x.sheet(3, -1, 99), 1);
         due("27 away, n does not matter", x.sheet(3, -1, -99), 1);
         due("27 away", x.cell(3, 0, 1), ABSENT);
+        due("27 away", x.item(3, 0), NO);
     }
 
     private static void cellsOfInts() {

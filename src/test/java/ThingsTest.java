@@ -18,6 +18,7 @@ public final class ThingsTest {
         removeSnapshot();
         removeFiles();
         removeBookmark();
+        numberTakenAnew();
         fork();
         promote();
         promoteAlongOwners();
@@ -329,6 +330,35 @@ public final class ThingsTest {
         due("8 bookmark", x.remove(2), 0);
         due("8 bookmark is gone", x.remove(2), ABSENT);
         due("8 things", x.count(0), 2);
+    }
+
+    /** Nothing of the thing that had a number before shows in the one that has it now. */
+    private static void numberTakenAnew() {
+        DeadListPool x = new DeadListPool();
+        x.files(NONE);
+        x.write(0, 0, 1);
+        x.snap(0, 1);
+        x.tag(1, 0);
+        x.snap(0, 1);
+        x.tag(2, 0);
+        due("8 tagged one removed", x.remove(1), 0);
+        due("2 in its place", x.files(NONE), 1);
+        due("2 kind", x.told(1, 0), 0);
+        due("2 prev", x.told(1, 2), NONE);
+        due("2 owner", x.told(1, 3), NONE);
+        due("2 tags", x.told(1, 7), 0);
+        due("2 empty", x.slot(1, 0), NONE);
+        due("2 own", x.told(0, 9), 1);
+        due("2 bound", x.files(5), 3);
+        x.remove(3);
+        due("9 in its place", x.fork(2), 3);
+        due("9 kind", x.told(3, 0), 0);
+        due("9 quota", x.told(3, 8), NONE);
+        x.remove(3);
+        due("7 in its place", x.mark(2), 3);
+        due("7 no prev", x.told(3, 2), NONE);
+        due("7 holds none", x.told(3, 6), 0);
+        due("15 holders", x.block(0, 2), 2);
     }
 
     private static void fork() {
