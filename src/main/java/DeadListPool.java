@@ -413,9 +413,6 @@ public final class DeadListPool {
         }
 
         int nextCount(int of) {
-            if (of == NONE) {
-                return 0;
-            }
             int sum = 0;
             for (int i = 0; i < THINGS; i++) {
                 if (prev[i] == of) {
@@ -437,9 +434,6 @@ public final class DeadListPool {
 
         /** How many snapshots files own: as these are the first of the chain, also where the chain's others begin. */
         int ownCount(int of) {
-            if (of == NONE) {
-                return 0;
-            }
             int sum = 0;
             for (int i = 0; i < THINGS; i++) {
                 if (owner[i] == of) {
@@ -1094,20 +1088,18 @@ public final class DeadListPool {
         private final Holders holders;
         private final int[] candidates;
         private final long[] freed;
-        private int sets;
 
         Choice(Pool pool) {
             this.pool = pool;
             this.holders = new Holders(pool);
             this.candidates = new int[CANDIDATES];
             this.freed = new long[ALL_SETS];
-            this.sets = 1;
         }
 
         long mostFreed(int of, int n) {
             weigh(of);
             long best = 0;
-            for (int set = 0; set < sets && set < ALL_SETS; set++) {
+            for (int set = 0; set < ALL_SETS; set++) {
                 if (Integer.bitCount(set) <= n) {
                     best = Math.max(best, freed[set]);
                 }
@@ -1121,7 +1113,7 @@ public final class DeadListPool {
             }
             weigh(of);
             int least = NONE;
-            for (int set = 0; set < sets && set < ALL_SETS; set++) {
+            for (int set = 0; set < ALL_SETS; set++) {
                 int members = Integer.bitCount(set);
                 if (freed[set] >= x && (least == NONE || members < least)) {
                     least = members;
@@ -1132,7 +1124,6 @@ public final class DeadListPool {
 
         private void weigh(int of) {
             int found = findCandidates(of);
-            sets = 1 << found;
             for (int set = 0; set < ALL_SETS; set++) {
                 freed[set] = 0;
             }
@@ -1151,7 +1142,7 @@ public final class DeadListPool {
             int found = 0;
             for (int k = 0; k < looked; k++) {
                 int at = pool.inChain(of, k);
-                if (pool.isLoose(at)) {
+                if (pool.isLoose(at) && found < CANDIDATES) {
                     candidates[found] = at;
                     found++;
                 }
@@ -1173,7 +1164,10 @@ public final class DeadListPool {
             return rest == 0 ? set : NONE;
         }
 
-        /** Each set gets what all sets within it have: one member after another is let be missing. */
+        /**
+         * Each set gets what all sets within it have: one member after another is let be missing. Sets with
+         * more members than there are candidates stay at 0, so they never win.
+         */
         private void addSubsets(int found) {
             for (int i = 0; i < found; i++) {
                 for (int set = 0; set < ALL_SETS; set++) {
