@@ -47,7 +47,7 @@ public final class LotBoundsTest {
             edge.still("32 greatest n", x -> x.drawn(5, Integer.MAX_VALUE, w), NO);
             int[] fine = {0, 1, 59, 60};
             for (int n : fine) {
-                edge.still("32 n " + n, x -> x.drawn(5, n, w), asCalled(edge.fresh(), 5, n)[w]);
+                edge.still("32 n " + n, x -> x.drawn(5, n, w), Drawn.called(edge.fresh(), 5, n)[w]);
             }
         }
     }
@@ -72,53 +72,12 @@ public final class LotBoundsTest {
         edge.still("32 sizes", x -> x.drawn(5, 0, 3), 3 + 5 + 40 + 7 + 9 + 12);
     }
 
-    /** What n acts bring when they are made as calls: things, blocks, freed by them, sizes. */
-    private static long[] asCalled(DeadListPool x, int seed, int n) {
-        int before = x.count(3);
-        int z = seed;
-        for (int i = 0; i < n; i++) {
-            int[] face = new int[3];
-            for (int j = 0; j < 3; j++) {
-                z = next(z);
-                face[j] = face(z);
-            }
-            act(x, face[0], face[1], face[2]);
-        }
-        long sizes = 0;
-        for (int b = 0; b < 96; b++) {
-            sizes += Math.max(0, x.block(b, 0));
-        }
-        long[] all = {x.count(0), x.count(1), x.count(3) - before, sizes};
-        return all;
-    }
-
-    private static int next(int z) {
-        return z * 1103515245 + 12345;
-    }
-
-    private static int face(int z) {
-        return (z >>> 9) % FACES;
-    }
-
-    private static void act(DeadListPool x, int a, int y, int w) {
-        switch (a) {
-            case 0, 1, 2, 3, 4, 5, 6, 7 -> x.write(y % 20, w % 12, 1 + y);
-            case 8, 9, 10 -> x.erase(y % 20, w % 12);
-            case 11, 12, 13, 14 -> x.snap(y % 20, w / 20);
-            case 15, 16, 17, 18 -> x.remove(y % 20);
-            case 19, 20 -> x.fork(y % 20);
-            case 21 -> x.promote(y % 20);
-            case 22 -> x.rollback(y % 20);
-            default -> x.files(NONE);
-        }
-    }
-
     /** A seed whose first act has these faces, or NONE. */
     private static int seedOf(int a, int y, int w, int from) {
         for (int seed = from; seed < from + 2000000; seed++) {
-            int z1 = next(seed);
-            int z2 = next(z1);
-            if (face(z1) == a && face(z2) == y && face(next(z2)) == w) {
+            int z1 = Drawn.next(seed);
+            int z2 = Drawn.next(z1);
+            if (Drawn.face(z1) == a && Drawn.face(z2) == y && Drawn.face(Drawn.next(z2)) == w) {
                 return seed;
             }
         }
@@ -148,17 +107,11 @@ public final class LotBoundsTest {
 
     private static void faces(int seed, int a, int y, int w) {
         DeadListPool x = rich();
-        DeadListPool called = rich();
-        act(called, a, y, w);
-        long sizes = 0;
-        for (int b = 0; b < 30; b++) {
-            sizes += Math.max(0, called.block(b, 0));
-        }
+        long[] called = Drawn.called(rich(), seed, 1);
         String name = "32 act " + a + " " + y + " " + w;
-        due(name + ": things", x.drawn(seed, 1, 0), called.count(0));
-        due(name + ": blocks", x.drawn(seed, 1, 1), called.count(1));
-        due(name + ": freed", x.drawn(seed, 1, 2), called.count(3));
-        due(name + ": sizes", x.drawn(seed, 1, 3), sizes);
+        for (int what = 0; what < 4; what++) {
+            due(name + ", what " + what, x.drawn(seed, 1, what), called[what]);
+        }
     }
 
     /** Things of all kinds at the numbers that y % 20 reaches from both sides: 0 .. 3 and 19. */
@@ -194,7 +147,7 @@ public final class LotBoundsTest {
             for (int what = 0; what < 4; what++) {
                 told[what] = x.drawn(-99, n, what);
             }
-            long[] called = asCalled(kindsPool(), -99, n);
+            long[] called = Drawn.called(kindsPool(), -99, n);
             for (int what = 0; what < 4; what++) {
                 due("32 " + n + " acts, what " + what, told[what], called[what]);
             }
@@ -212,7 +165,7 @@ public final class LotBoundsTest {
         int[] seeds = {0, 1, -1, 2, Integer.MAX_VALUE, Integer.MAX_VALUE - 1, Integer.MIN_VALUE, Integer.MIN_VALUE + 1,
             1 << 9, (1 << 9) - 1, -(1 << 9), 1103515245, -1103515245, 12345, -12345};
         for (int seed : seeds) {
-            long[] called = asCalled(kindsPool(), seed, 60);
+            long[] called = Drawn.called(kindsPool(), seed, 60);
             for (int what = 0; what < 4; what++) {
                 due("32 seed " + seed + ", what " + what, kindsPool().drawn(seed, 60, what), called[what]);
             }
@@ -229,10 +182,10 @@ public final class LotBoundsTest {
             for (int what = 0; what < 4; what++) {
                 DeadListPool calledThings = new DeadListPool();
                 Samples.twentyThings(calledThings);
-                due("32 twenty things", things.drawn(seed, 60, what), asCalled(calledThings, seed, 60)[what]);
+                due("32 twenty things", things.drawn(seed, 60, what), Drawn.called(calledThings, seed, 60)[what]);
                 DeadListPool calledBlocks = new DeadListPool();
                 Samples.allBlocks(calledBlocks);
-                due("32 96 blocks", blocks.drawn(seed, 60, what), asCalled(calledBlocks, seed, 60)[what]);
+                due("32 96 blocks", blocks.drawn(seed, 60, what), Drawn.called(calledBlocks, seed, 60)[what]);
             }
         }
     }

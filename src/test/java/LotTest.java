@@ -39,41 +39,15 @@ public final class LotTest {
             x.write(0, 0, 2);
             x.erase(0, 0);
             int n = (seed + 40) % 61;
-            int before = x.count(3);
             long[] told = new long[4];
             for (int what = 0; what < 4; what++) {
                 told[what] = x.drawn(seed * 7919, n, what);
             }
-            int z = seed * 7919;
-            for (int i = 0; i < n; i++) {
-                int[] drawn = new int[3];
-                for (int j = 0; j < 3; j++) {
-                    z = z * 1103515245 + 12345;
-                    drawn[j] = (z >>> 9) % 24;
-                }
-                act(x, drawn[0], drawn[1], drawn[2]);
-            }
-            due("32 things", told[0], x.count(0));
-            due("32 blocks", told[1], x.count(1));
-            due("32 freed", told[2], x.count(3) - before);
-            long sizes = 0;
-            for (int b = 0; b < 96; b++) {
-                sizes += Math.max(0, x.block(b, 0));
-            }
-            due("32 sizes", told[3], sizes);
-        }
-    }
-
-    private static void act(DeadListPool x, int a, int y, int w) {
-        switch (a) {
-            case 0, 1, 2, 3, 4, 5, 6, 7 -> x.write(y % 20, w % 12, 1 + y);
-            case 8, 9, 10 -> x.erase(y % 20, w % 12);
-            case 11, 12, 13, 14 -> x.snap(y % 20, w / 20);
-            case 15, 16, 17, 18 -> x.remove(y % 20);
-            case 19, 20 -> x.fork(y % 20);
-            case 21 -> x.promote(y % 20);
-            case 22 -> x.rollback(y % 20);
-            default -> x.files(NONE);
+            long[] called = Drawn.called(x, seed * 7919, n);
+            due("32 things", told[0], called[0]);
+            due("32 blocks", told[1], called[1]);
+            due("32 freed", told[2], called[2]);
+            due("32 sizes", told[3], called[3]);
         }
     }
 
