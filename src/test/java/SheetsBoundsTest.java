@@ -510,6 +510,7 @@ public final class SheetsBoundsTest {
     private static void applyEndsBehindASlot() {
         sheetOf(0, 0).still("31 one alone", x -> x.apply(0, 2, 0), OUTSIDE);
         sheetOf(1, 0).still("31 one alone", x -> x.apply(0, 2, 1), OUTSIDE);
+        sheetOf(0, 12).still("31 one alone that is no slot's number", x -> x.apply(0, 2, 0), OUTSIDE);
         sheetOf(0, 12, 5, 1).still("31 nothing ahead was", x -> x.apply(0, 2, 0), OUTSIDE);
         sheetOf(0, 0, 5).moves("31 two", x -> x.apply(0, 2, 0), 1);
         Edge three = sheetOf(0, 0, 5, 11);
